@@ -326,6 +326,9 @@ public final class Promises {
         faulty("cues ((((((( if not 1<2", 3, 16);
         faulty("cues " + times(7, "(") + " if (1", 3, 16);
         faulty("cues if 1<2 then 1 else (((((((((1", 3, 31);
+        faulty("cues if " + times(8, "not ") + "1<2 then 1 else 2 end;", 3, 36);
+        faulty("cues if " + times(7, "not ") + "(1<2 then 1 else 2 end;", 3, 36);
+        fine("cues if " + times(7, "not ") + "1<2 and 1<(((((((2))))))) then 1 else 2 end;");
         faulty("cues 1;cues 1;", 4, 7);
         faulty("stays 1;mend 0;stays 1;", 4, 15);
         faulty("gladdens 1;gladdens who;", 4, 11);
@@ -350,6 +353,11 @@ public final class Promises {
     }
 
     private static void sums() {
+        sum("0", 0);
+        sum("(((((((7)))))))-2-1", 4);
+        sum("if 1<2 and 2<1 then 3 else 4 end", 4);
+        sum("if 2<1 and 1<2 or 1<2 then 3 else 4 end", 3);
+        sum("if 1<2 then 0 else 4 end+if 2<1 then 4 else 0 end", 0);
         sum("7-2-1", 4);
         sum("7-(2-1)", 6);
         sum("2+3*4", 14);
@@ -418,6 +426,12 @@ public final class Promises {
         x.by(NONE);
         due(18, "by none", x.ofScene(11, 7), 0);
         due(17, "PLAIN", x.of(0, 3), 9);
+        x = ruled("cues draw+day;gladdens day*10+glad;");
+        x.person(1, 1);
+        x.person(2, 2);
+        x.evening(2);
+        due(18, "day", x.ofScene(3, 7), 2);
+        due(17, "day and glad", x.of(1, 3), 20 + x.of(1, 2));
         x = ruled("cues shown-1;");
         due(18, "at least 0", x.ofScene(0, 7), 0);
         x.evening(3);
@@ -1123,6 +1137,22 @@ public final class Promises {
         due(39, "one moves on", x.roster(1, NONE), 249);
         due(39, "the later of like ones", x.roster(1, 4), 4);
         due(39, "the other stays", x.roster(1, 3), 3);
+        // of like ones PERSON by PERSON: 6 on 0 and 7 on 4 comes ahead of 6 on 1 and 7 on 0
+        x = new FilmLooksBack();
+        int[] fixed = {0, 2, 2, 3, 3, 4};
+        for (int p = 0; p < 8; p++) {
+            x.person(0, 0);
+            if (p < 6) {
+                x.likes(p, fixed[p], 99);
+            }
+        }
+        x.likes(6, 0, 5);
+        x.likes(6, 1, 5);
+        x.likes(7, 0, 5);
+        x.likes(7, 4, 5);
+        due(39, "together", x.roster(2, NONE), 6 * 99 + 10);
+        due(39, "6 on the lowest", x.roster(2, 6), 0);
+        due(39, "7 on the other", x.roster(2, 7), 4);
     }
 
     private static void whoseLaw() {
