@@ -9,6 +9,7 @@ public final class Boundaries {
 
     public static void main(String[] args) {
         atFirst();
+        manyCalls();
         sceneTold();
         kindTold();
         personTold();
@@ -21,6 +22,7 @@ public final class Boundaries {
         changes();
         gladdened();
         writtenDown();
+        unlikeEvenings();
         counters();
         years();
         yearsAsSteps();
@@ -114,6 +116,25 @@ public final class Boundaries {
         same("as a new one", x, new FilmLooksBack());
     }
 
+    private static void manyCalls() {
+        FilmLooksBack x = Due.test(1, "at most 512 calls after it has been made: the 512th, behind 511 that did something");
+        for (int i = 0; i < 255; i++) {
+            x.evening(1);
+            x.undo();
+        }
+        Due.is("the 511th: evening(1)", x.evening(1), 1);
+        Due.is("the 512th: is(1)", x.is(1), 16104);
+        x = Due.test(21, "at most 512 calls after it has been made: the dearest each time");
+        Tape.rule(x, "cues if not 1<2 or 1<2 and(((draw+scene)))<day then 2 else 0 end;stays if cue<3 then 1 else 0 end;");
+        x.scene(11, 0, 0);
+        x.scene(11, 2, 0);
+        x.scene(11, 1, 12);
+        int foretold = x.foretold(40, 2);
+        for (int i = 0; i < 490; i++) {
+            Due.is("foretold(40, 2)", x.foretold(40, 2), foretold);
+        }
+    }
+
     private static void sceneTold() {
         FilmLooksBack x = Due.test(2, "SCENE 0, cue 0, next 0: the least");
         Due.is("scene(0, 0, 0)", x.scene(0, 0, 0), true);
@@ -202,6 +223,23 @@ public final class Boundaries {
             Due.is("about(0)", x.about(0), p + 1);
         }
         Due.is("of(7, 0)", x.of(7, 0), 7);
+        x = Due.test(4, "the last of 8: nothing else is told by it");
+        for (int p = 0; p < 8; p++) {
+            x.person(3, 9);
+        }
+        Due.is("ofScene(0, 0)", x.ofScene(0, 0), 1);
+        Due.is("is(2)", x.is(2), 0);
+        x = Due.test(19, "SEEN: rows alone, though GLAD is 1 .. 6");
+        for (int p = 0; p < 8; p++) {
+            x.person(3, 1);
+        }
+        x.evening(1);
+        for (int p = 0; p < 8; p++) {
+            x.seat(p, 9);
+        }
+        Due.is("of(0, 2)", x.of(0, 2), 3);
+        Due.is("is(2)", x.is(2), 0);
+        Due.is("front()", x.front(), 0);
         x = Due.test(4, "NONE for others: no number is lost by one");
         x.person(10, 0);
         Due.is("person(1, 1)", x.person(1, 1), 0);
@@ -347,6 +385,17 @@ public final class Boundaries {
         Due.is("evening(40)", x.evening(40), 40);
         Due.is("DAY", x.is(0), 9999);
         Due.is("the latest", x.book(29, 0), 9998);
+        x = Due.test(13, "DAY 0 .. 9999: it is DAY that counts, not how many ended");
+        leadAlways(x, 0, 0);
+        x.evening(1);
+        leadAlways(x, 0, 1);
+        Houses.onDay(x, 9999);
+        Due.is("DAY", x.is(0), 9999);
+        Due.is("ENDED", x.is(3), 9998);
+        Due.is("evening(1)", x.evening(1), NONE);
+        Due.is("foretold(1, 1)", x.foretold(1, 1), 0);
+        Due.is("played(0)", x.played(0), 0);
+        Due.is("years(2, 1)", x.years(2, 1), 9999);
         x = Due.test(13, "at 9999 none can be; but behind undo one can");
         x = Houses.onDay(9999);
         Due.is("evening(1)", x.evening(1), NONE);
@@ -602,6 +651,80 @@ public final class Boundaries {
         Due.is("ENDED, all together", x.is(3), 2);
     }
 
+    /** EVENINGS that are unlike by DAY: cue 1, 2 or 3 leads from SCENE 0 to 4, 7 or (without end) 2. */
+    private static FilmLooksBack unlike() {
+        FilmLooksBack x = new FilmLooksBack();
+        x.scene(0, 1, 4);
+        x.scene(0, 2, 7);
+        x.scene(0, 3, 2);
+        leadAlways(x, 2, 2);
+        Tape.rule(x, "cues if scene=0 then 1+day%7%3 else 0 end;stays day%4/3;");
+        return x;
+    }
+
+    /** Of the EVENING of that DAY: how many SCENES, whether it ended, how many CHANGES. */
+    private static int[] unlikeOn(int day) {
+        int[] nexts = {4, 7, 2};
+        int lead = 1;
+        int[] due = new int[3];
+        for (int d = 0; d <= day; d++) {
+            int next = nexts[d % 7 % 3];
+            due = new int[] {next == 2 ? 30 : 13 - next, next == 2 ? 0 : 1, 0};
+            if (d % 4 == 3 && next != lead) {
+                lead = next;
+                due[2] = 1;
+            }
+        }
+        return due;
+    }
+
+    private static void unlikeBook(FilmLooksBack x, int eldest, int latest) {
+        Due.is("how many", x.book(NONE, 0), latest - eldest + 1);
+        int ended = 0;
+        for (int day = eldest; day <= latest; day++) {
+            int[] due = unlikeOn(day);
+            for (int what = 1; what < 4; what++) {
+                Due.is("of DAY " + day + ", " + what, x.book(day - eldest, what), due[what - 1]);
+            }
+            ended += due[1];
+        }
+        Due.is("the eldest", x.book(0, 0), eldest);
+        Due.is("the latest", x.book(latest - eldest, 0), latest);
+        Due.is("ledger(true)", x.ledger(true), ended);
+        Due.is("ledger(false)", x.ledger(false), latest - eldest + 1 - ended);
+    }
+
+    private static void unlikeEvenings() {
+        for (int days : new int[] {1, 29, 30, 31, 59, 60, 61, 90}) {
+            Due.test(20, "BOOK (the latest 30 EVENINGS): each as it was, behind " + days);
+            FilmLooksBack x = unlike();
+            for (int done = 0; done < days; done += 30) {
+                x.evening(Math.min(30, days - done));
+            }
+            unlikeBook(x, Math.max(0, days - 30), days - 1);
+        }
+        for (int day = 30; day < 33; day++) {
+            Due.test(16, "BOOK is as ahead of it: all 30, on DAY " + day);
+            FilmLooksBack x = unlike();
+            x.evening(day + 2 > 40 ? 40 : day + 2);
+            x.undo();
+            x.undo();
+            unlikeBook(x, day - 30, day - 1);
+        }
+        Due.test(21, "FORETOLD: BOOK is as it was, all 30");
+        FilmLooksBack x = unlike();
+        x.evening(33);
+        Due.is("foretold(40, 1)", x.foretold(40, 1), unlikeOn(72)[0]);
+        unlikeBook(x, 3, 32);
+        Due.test(48, "BOOK is so again, all 30");
+        x = unlike();
+        x.evening(30);
+        x.image();
+        x.evening(29);
+        x.back();
+        unlikeBook(x, 0, 29);
+    }
+
     private static void counters() {
         FilmLooksBack x = Due.test(18, "SHOWN (0 .. 9999): 9990 and 30 are 9999");
         leadAlways(x, 0, 0);
@@ -732,6 +855,11 @@ public final class Boundaries {
         x = Due.test(15, "the answer is DAY: as it was, if there was no EVENING");
         x.evening(7);
         Due.is("years(1, 1)", x.years(1, 1), 7);
+        x = Due.test(15, "the answer is DAY, not how many ended");
+        leadAlways(x, 0, 0);
+        x.evening(2);
+        Due.is("years(2, 1)", x.years(2, 1), 3);
+        Due.is("ENDED", x.is(3), 0);
         x = Due.test(15, "n times: x is X as the EVENING ahead left it");
         leadAlways(x, 0, 12);
         int at = 199;
@@ -851,6 +979,16 @@ public final class Boundaries {
         }
         Due.is("row", x.of(0, 1), 1 + 42 % 9);
         Due.is("about(3)", x.about(3), 25);
+        x = Due.test(16, "the latest 30: behind 75, each as ahead of it");
+        x.person(1, 0);
+        for (int i = 1; i <= 75; i++) {
+            x.seat(0, i % 10);
+        }
+        for (int i = 74; i >= 45; i--) {
+            Due.is("undo()", x.undo(), i - 45);
+            Due.is("row", x.of(0, 1), i % 10);
+        }
+        Due.is("undo()", x.undo(), NONE);
         x = Due.test(16, "what can't be is no STEP");
         x.person(1, 0);
         x.seat(0, 0);
@@ -893,9 +1031,25 @@ public final class Boundaries {
         x.call(5, 1);
         x.scene(4, 0, 7);
         x.undo();
+        Due.is("NEXT by cue 0", x.ofScene(4, 0), 7);
+        Due.is("NEXT by cue 0", x.ofScene(5, 0), 6);
         x.undo();
         Due.is("NEXT by cue 0", x.ofScene(4, 0), 7);
         Due.is("NEXT by cue 0", x.ofScene(5, 0), 6);
+        x = Due.test(16, "what was told since: behind 30 STEPS, by each of them taken back");
+        x.scene(11, 1, 3);
+        x.person(1, 0);
+        for (int i = 0; i < 50; i++) {
+            x.seat(0, 1 + i % 2);
+        }
+        x.scene(11, 0, 7);
+        x.person(1, 5);
+        x.call(11, 1);
+        for (int i = 29; i >= 0; i--) {
+            Due.is("undo()", x.undo(), i);
+            Due.is("NEXT by cue 0", x.ofScene(11, 0), 7);
+            Due.is("row of the one told since", x.of(1, 1), 5);
+        }
         x = Due.test(16, "told since: NEXT by cue 1 .. 3, KIND");
         x.evening(1);
         x.scene(4, 3, 9);
@@ -972,6 +1126,27 @@ public final class Boundaries {
         Due.is("ofScene(0, 7)", x.ofScene(0, 7), 0);
         x.evening(1);
         Due.is("ofScene(0, 7)", x.ofScene(0, 7), 1);
+        x = Due.test(18, "7 as law says now: who is SEEN now, DAY now");
+        Tape.rule(x, "cues seen+day;");
+        Due.is("ofScene(0, 7)", x.ofScene(0, 7), 0);
+        x.person(1, 1);
+        Due.is("ofScene(0, 7)", x.ofScene(0, 7), 1);
+        x.seat(0, 9);
+        Due.is("ofScene(0, 7)", x.ofScene(0, 7), 0);
+        x.evening(2);
+        Due.is("ofScene(0, 7)", x.ofScene(0, 7), 2);
+        x.undo();
+        Due.is("ofScene(0, 7)", x.ofScene(0, 7), 1);
+        x = Due.test(17, "3 gladdens now: PLAIN together now, DAY now");
+        Tape.rule(x, "gladdens plain*10+day;");
+        x.person(4, 9);
+        Due.is("of(0, 3)", x.of(0, 3), 0);
+        x.seat(0, 1);
+        Due.is("of(0, 3)", x.of(0, 3), 40);
+        x.evening(1);
+        Due.is("of(0, 3)", x.of(0, 3), 41);
+        x.undo();
+        Due.is("of(0, 3)", x.of(0, 3), 40);
         x = Due.test(18, "4 NEXT by cue 0 as told, 0 as it is now");
         x.scene(11, 1, 0);
         x.call(11, 1);
@@ -1001,12 +1176,31 @@ public final class Boundaries {
         Due.is("gladdest()", x.gladdest(), 7);
         x.evening(1);
         Due.is("gladdest()", x.gladdest(), 0);
+        int[][] plains = {{5, 3, 4}, {3, 5, 4}, {3, 4, 5}, {3, 5, 5}, {5, 5, 3}};
+        int[] due = {0, 1, 2, 1, 0};
+        for (int i = 0; i < plains.length; i++) {
+            x = Due.test(42, "GLADDEST: of " + plains[i][0] + ", " + plains[i][1] + ", " + plains[i][2]);
+            for (int plain : plains[i]) {
+                x.person(plain, 1);
+            }
+            x.evening(1);
+            Due.is("gladdest()", x.gladdest(), due[i]);
+        }
         x = Due.test(43, "OFTEN: none was SHOWN: of like ones the lowest");
         Due.is("often()", x.often(), 0);
         x = Due.test(43, "OFTEN: SCENE 11; of like ones the lowest");
         leadAlways(x, 11, 11);
         x.evening(1);
         Due.is("often()", x.often(), 11);
+        x = Due.test(43, "OFTEN: SCENE 1 of 2, 30, 28; SCENE 2 of 3, 31, 57");
+        leadAlways(x, 1, 1);
+        x.evening(1);
+        leadAlways(x, 1, 2);
+        leadAlways(x, 2, 2);
+        x.evening(1);
+        Due.is("often()", x.often(), 1);
+        x.evening(1);
+        Due.is("often()", x.often(), 2);
         x = Due.test(43, "OFTEN: both at 9999: the lowest");
         leadAlways(x, 1, 1);
         for (int i = 0; i < 9; i++) {
@@ -1056,6 +1250,7 @@ public final class Boundaries {
         FilmLooksBack twin = Houses.furnished();
         twin.image();
         same("as ahead", x, twin);
+        fullImage();
         x = Due.test(48, "BACK to THE IMAGE (it stays): twice");
         x.evening(2);
         Due.is("image()", x.image(), 2);
@@ -1070,6 +1265,11 @@ public final class Boundaries {
         x.evening(1);
         Due.is("image()", x.image(), 3);
         x.evening(1);
+        Due.is("back()", x.back(), 3);
+        x = Due.test(47, "the answer is DAY, not how many ended; of BACK, too");
+        leadAlways(x, 0, 0);
+        x.evening(3);
+        Due.is("image()", x.image(), 3);
         Due.is("back()", x.back(), 3);
         x = Due.test(48, "but the tape: it is as it was");
         x.image();
@@ -1096,6 +1296,50 @@ public final class Boundaries {
         Due.is("fault(1)", x.fault(1), 5);
         imagesOfTexts();
         imagesOfSteps();
+    }
+
+    private static void fullImage() {
+        Due.test(47, "THE IMAGE of a full house: all is so again");
+        FilmLooksBack x = Houses.full();
+        x.image();
+        for (int c = 0; c < 4; c++) {
+            x.scene(0, c, 11);
+            x.scene(11, c, 3);
+        }
+        x.kind(0, 1);
+        x.kind(11, 3);
+        x.evening(31);
+        x.seat(7, 0);
+        x.cue(NONE);
+        x.felt(NONE, 0);
+        for (int i = 0; i < 12; i++) {
+            x.cue(1);
+        }
+        for (int p = 0; p < 8; p++) {
+            x.felt(0, 0);
+            x.likes(p, 4, 0);
+        }
+        x.weigh(0, 0, 10, 0);
+        x.look(1);
+        x.by(3);
+        x.back();
+        FilmLooksBack twin = Houses.full();
+        twin.image();
+        same("as ahead", x, twin);
+        Due.test(48, "STEPS of THE IMAGE: all 30, each as ahead of it");
+        x = Houses.full();
+        x.image();
+        x.evening(31);
+        x.back();
+        twin = Houses.full();
+        for (int i = 29; i >= 0; i--) {
+            Due.is("undo()", x.undo(), i);
+            Due.is("undo()", twin.undo(), i);
+            Due.is("X", x.is(1), twin.is(1));
+            Due.is("DAY", x.is(0), 10 + i);
+            Due.is("NEXT by cue 0", x.ofScene(0, 0), 6 - i % 2);
+        }
+        Due.is("BOOK", x.book(NONE, 0), 10);
     }
 
     private static void imagesOfTexts() {
@@ -1187,7 +1431,7 @@ public final class Boundaries {
     private static void about() {
         FilmLooksBack x = Due.test(49, "all at their greatest");
         x = Houses.full();
-        int[] due = {8, 4, NONE, 30, 12, 8, 300};
+        int[] due = {8, 4, 0, 30, 12, 8, 300};
         for (int what = 0; what < 7; what++) {
             Due.is("about(" + what + ")", x.about(what), due[what]);
         }

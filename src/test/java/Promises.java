@@ -1,51 +1,27 @@
 /** For each promise what it asks: ordinary calls, the edges that the document names, and wrong ones. */
 public final class Promises {
     private static final int NONE = FilmLooksBack.NONE;
-    private static int checked = 0;
-    private static int wrong = 0;
 
     private static void due(int promise, String call, long got, long want) {
-        checked++;
-        if (got != want) {
-            wrong++;
-            System.out.println("promise " + promise + ": " + call + " answered " + got + ", due is " + want);
-        }
+        Due.of(promise);
+        Due.is(call, got, want);
     }
 
     private static void due(int promise, String call, boolean got, boolean want) {
         due(promise, call, got ? 1 : 0, want ? 1 : 0);
     }
 
-    /** The tape has just these bytes then. */
-    private static void tape(FilmLooksBack x, String text) {
-        x.end(0);
-        int[] w = new int[5];
-        for (int at = 0; at < text.length(); at += 20) {
-            for (int i = 0; i < 20; i++) {
-                int b = at + i < text.length() ? text.charAt(at + i) & 255 : 0;
-                w[i / 4] = w[i / 4] << 8 | b;
-            }
-            x.feed(w[0], w[1], w[2], w[3], w[4]);
-        }
-        x.end(text.length());
-    }
-
-    private static int read(FilmLooksBack x, String text) {
-        tape(x, text);
-        return x.text();
-    }
-
     /** A new house where this text rules. */
     private static FilmLooksBack ruled(String text) {
         FilmLooksBack x = new FilmLooksBack();
-        due(7, text, read(x, text), 0);
+        due(7, text, Tape.read(x, text), 0);
         due(9, "by(0)", x.by(0), true);
         return x;
     }
 
     private static void faulty(String text, int fault, int place) {
         FilmLooksBack x = new FilmLooksBack();
-        due(7, text, read(x, text), NONE);
+        due(7, text, Tape.read(x, text), NONE);
         due(8, "fault(0) of " + text, x.fault(0), fault);
         due(8, "fault(1) of " + text, x.fault(1), place);
         due(7, "about(1) behind " + text, x.about(1), 0);
@@ -54,7 +30,7 @@ public final class Promises {
 
     private static void fine(String text) {
         FilmLooksBack x = new FilmLooksBack();
-        due(7, text, read(x, text), 0);
+        due(7, text, Tape.read(x, text), 0);
         due(8, "fault(0) of " + text, x.fault(0), 0);
         due(8, "fault(1) of " + text, x.fault(1), NONE);
     }
@@ -65,14 +41,6 @@ public final class Promises {
         x.person(4, 3);
         x.kind(5, 2);
         due(17, "of(0, 3) by gladdens " + sum, x.of(0, 3), want);
-    }
-
-    private static String times(int n, String s) {
-        StringBuilder b = new StringBuilder();
-        for (int i = 0; i < n; i++) {
-            b.append(s);
-        }
-        return b.toString();
     }
 
     public static void main(String[] args) {
@@ -104,10 +72,7 @@ public final class Promises {
         gladdestAndOften();
         anImage();
         about();
-        System.out.println(checked + " checked, " + wrong + " wrong");
-        if (wrong != 0) {
-            System.exit(1);
-        }
+        Due.end();
     }
 
     private static void aNewObject() {
@@ -229,11 +194,11 @@ public final class Promises {
         due(6, "end(7)", x.end(7), 7);
         due(7, "mend 0;", x.text(), 1);
         due(7, "the tape is empty then", x.about(6), 0);
-        due(7, "with a FAULT", read(x, "mend"), NONE);
+        due(7, "with a FAULT", Tape.read(x, "mend"), NONE);
         due(7, "the tape is empty then, too", x.about(6), 0);
-        due(7, "the third", read(x, " \n "), 2);
-        due(7, "the fourth", read(x, ""), 3);
-        tape(x, "mend 99;");
+        due(7, "the third", Tape.read(x, " \n "), 2);
+        due(7, "the fourth", Tape.read(x, ""), 3);
+        Tape.put(x, "mend 99;");
         due(7, "a fifth", x.text(), NONE);
         due(7, "the tape stays", x.about(6), 8);
         due(8, "it was not read", x.fault(0), 0);
@@ -254,7 +219,7 @@ public final class Promises {
         fine("scene 0 by 0 to 0;kind 0 of 0;person 0 row 0;seat 0 in 0;call 0 by 1;mend 0;evening 1;");
         fine("mend 00000000000000000000000000011;");
         fine("cues 9999;");
-        fine(times(24, "mend 0;"));
+        fine("mend 0;".repeat(24));
         fine("cues ((((((((1))))))));");
         fine("cues ((((1))))+((((1))))-((((((((1))))))));");
         fine("cues if not not not 1<=2 then----1 else kinds kinds 3 end;");
@@ -324,11 +289,11 @@ public final class Promises {
         faulty("cues ---------1;", 3, 13);
         faulty("cues ((((--- kinds if 1<2 then 1 else 2 end", 3, 19);
         faulty("cues ((((((( if not 1<2", 3, 16);
-        faulty("cues " + times(7, "(") + " if (1", 3, 16);
+        faulty("cues " + "(".repeat(7) + " if (1", 3, 16);
         faulty("cues if 1<2 then 1 else (((((((((1", 3, 31);
-        faulty("cues if " + times(8, "not ") + "1<2 then 1 else 2 end;", 3, 36);
-        faulty("cues if " + times(7, "not ") + "(1<2 then 1 else 2 end;", 3, 36);
-        fine("cues if " + times(7, "not ") + "1<2 and 1<(((((((2))))))) then 1 else 2 end;");
+        faulty("cues if " + "not ".repeat(8) + "1<2 then 1 else 2 end;", 3, 36);
+        faulty("cues if " + "not ".repeat(7) + "(1<2 then 1 else 2 end;", 3, 36);
+        fine("cues if " + "not ".repeat(7) + "1<2 and 1<(((((((2))))))) then 1 else 2 end;");
         faulty("cues 1;cues 1;", 4, 7);
         faulty("stays 1;mend 0;stays 1;", 4, 15);
         faulty("gladdens 1;gladdens who;", 4, 11);
@@ -346,10 +311,10 @@ public final class Promises {
         faulty("gladdens draw;", 5, 9);
         faulty("gladdens cue;", 5, 9);
         faulty("gladdens next;", 5, 9);
-        faulty(times(24, "mend 0;") + "mend 0;", 6, 168);
-        faulty(times(24, "mend 0;") + "stays", 6, 168);
-        faulty(times(24, "mend 0;") + "x", 1, 168);
-        faulty("cues 1;" + times(23, "mend 0;") + "cues", 4, 168);
+        faulty("mend 0;".repeat(24) + "mend 0;", 6, 168);
+        faulty("mend 0;".repeat(24) + "stays", 6, 168);
+        faulty("mend 0;".repeat(24) + "x", 1, 168);
+        faulty("cues 1;" + "mend 0;".repeat(23) + "cues", 4, 168);
     }
 
     private static void sums() {
@@ -569,20 +534,8 @@ public final class Promises {
         due(17, "at most", x.of(0, 2), 99);
     }
 
-    private static FilmLooksBack ahead(int day) {
-        FilmLooksBack x = new FilmLooksBack();
-        read(x, times(24, "evening 40;"));
-        for (int i = 0; i < 10 && x.is(0) + 960 <= day; i++) {
-            due(14, "960 evenings", x.played(0), NONE);
-        }
-        while (x.is(0) < day) {
-            x.evening(Math.min(40, day - x.is(0)));
-        }
-        return x;
-    }
-
     private static void lastDays() {
-        FilmLooksBack x = ahead(9990);
+        FilmLooksBack x = Houses.onDay(9990);
         x.person(9, 9);
         due(13, "ten would be too many", x.evening(10), NONE);
         due(13, "nothing is done", x.is(0), 9990);
@@ -612,7 +565,7 @@ public final class Promises {
         for (int c = 0; c < 4; c++) {
             x.scene(0, c, 0);
         }
-        read(x, times(24, "evening 40;"));
+        Tape.read(x, "evening 40;".repeat(24));
         x.played(0);
         due(18, "SHOWN", x.ofScene(0, 6), 9999);
         due(19, "none ended", x.is(3), 0);
@@ -625,7 +578,7 @@ public final class Promises {
         FilmLooksBack x = new FilmLooksBack();
         due(14, "none", x.played(0), -2);
         due(14, "NONE", x.played(NONE), -2);
-        due(14, "read", read(x, "cues 0;scene 3 by 1 to 9;kind 2 of 7;person 5 row 2;seat 0 in 4;call 3 by 1;"
+        due(14, "read", Tape.read(x, "cues 0;scene 3 by 1 to 9;kind 2 of 7;person 5 row 2;seat 0 in 4;call 3 by 1;"
                 + "evening 2;mend 3;stays 0;"), 0);
         due(14, "one beside", x.played(1), -2);
         due(14, "all is done", x.played(0), NONE);
@@ -641,18 +594,18 @@ public final class Promises {
         due(14, "again: the next person is told, 0 sits in 4", x.played(0), 4);
         due(14, "what was done stays", x.about(0), 2);
         due(14, "no evening", x.is(0), 2);
-        read(x, "mend 1;evening 1;");
+        Tape.read(x, "mend 1;evening 1;");
         due(14, "mend can't be", x.played(1), 0);
-        read(x, "stays 1;gladdens 2;cues 0;seat 7 in 0;");
+        Tape.read(x, "stays 1;gladdens 2;cues 0;seat 7 in 0;");
         due(14, "laws are counted", x.played(2), 3);
-        read(x, times(7, "person 1 row 1;"));
+        Tape.read(x, "person 1 row 1;".repeat(7));
         due(14, "the ninth person", x.played(3), 6);
         due(14, "eight", x.about(0), 8);
         due(9, "by", x.by(3), true);
         x = new FilmLooksBack();
-        read(x, "call 0 by 1;");
+        Tape.read(x, "call 0 by 1;");
         due(14, "call can't be", x.played(0), 0);
-        read(x, "");
+        Tape.read(x, "");
         due(14, "nothing to do", x.played(1), NONE);
     }
 
@@ -1161,9 +1114,9 @@ public final class Promises {
         due(40, "nobody there", x.felt(0, 3), -2);
         x.person(3, 2);
         x.person(5, 9);
-        read(x, "gladdens plain+who;");
-        read(x, "cues 1;");
-        read(x, "gladdens 3+long-1;");
+        Tape.read(x, "gladdens plain+who;");
+        Tape.read(x, "cues 1;");
+        Tape.read(x, "gladdens 3+long-1;");
         due(41, "none felt: all", x.whose(), 7);
         due(40, "felt(0, 3)", x.felt(0, 3), 1);
         due(41, "all", x.whose(), 7);
@@ -1227,7 +1180,7 @@ public final class Promises {
     private static void anImage() {
         FilmLooksBack x = new FilmLooksBack();
         x.person(2, 2);
-        read(x, "gladdens 7;");
+        Tape.read(x, "gladdens 7;");
         x.by(0);
         x.scene(0, 1, 3);
         x.call(0, 1);
@@ -1246,7 +1199,7 @@ public final class Promises {
         x.undo();
         x.undo();
         x.person(1, 1);
-        read(x, "gladdens 1;");
+        Tape.read(x, "gladdens 1;");
         x.by(1);
         x.scene(0, 0, 12);
         x.scene(0, 1, 12);
@@ -1284,7 +1237,7 @@ public final class Promises {
         due(48, "NEXT", x.ofScene(0, 0), 1);
         due(48, "it stays", x.back(), 2);
         due(48, "STEPS", x.about(3), 3);
-        due(7, "another second text", read(x, "gladdens 5;"), 1);
+        due(7, "another second text", Tape.read(x, "gladdens 5;"), 1);
         x.by(1);
         due(17, "rules", x.of(0, 3), 5);
         x.by(0);
@@ -1292,7 +1245,7 @@ public final class Promises {
         x.image();
         x.back();
         due(48, "a later image", x.about(1), 2);
-        due(7, "a FAULT", read(x, "cues"), NONE);
+        due(7, "a FAULT", Tape.read(x, "cues"), NONE);
         x.back();
         due(48, "the FAULT stays", x.fault(0), 1);
         due(48, "its place", x.fault(1), 4);
@@ -1304,9 +1257,9 @@ public final class Promises {
         due(49, "about(-1)", x.about(-1), -2);
         x.person(1, 1);
         x.person(1, 1);
-        read(x, "");
-        read(x, "");
-        read(x, "");
+        Tape.read(x, "");
+        Tape.read(x, "");
+        Tape.read(x, "");
         x.by(2);
         x.seat(0, 2);
         for (int i = 0; i < 5; i++) {

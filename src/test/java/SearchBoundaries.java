@@ -154,6 +154,24 @@ public final class SearchBoundaries {
         Due.is("shortest(0, 12, 0)", x.shortest(0, 12, 0), 3);
         Due.is("shortest(0, 12, 1)", x.shortest(0, 12, 1), 3);
         Due.is("shortest(0, 12, 2)", x.shortest(0, 12, 2), -2);
+        x = Due.test(24, "the i-th: each of 2 1 3, from SCENE 6 by 8 and 2");
+        x.scene(6, 2, 8);
+        x.scene(8, 1, 2);
+        x.scene(2, 3, 12);
+        int[] due = {2, 1, 3};
+        Due.is("shortest(6, 12, NONE)", x.shortest(6, 12, NONE), 3);
+        for (int i = 0; i < 3; i++) {
+            Due.is("shortest(6, 12, " + i + ")", x.shortest(6, 12, i), due[i]);
+        }
+        x = Due.test(24, "the longest, by SCENES from the highest down: 12 cues, each its own");
+        for (int s = 0; s < 12; s++) {
+            leadAlways(x, s, s);
+            x.scene(s, s % 4, s == 0 ? 12 : s - 1);
+        }
+        Due.is("shortest(11, 12, NONE)", x.shortest(11, 12, NONE), 12);
+        for (int i = 0; i < 12; i++) {
+            Due.is("shortest(11, 12, " + i + ")", x.shortest(11, 12, i), (11 - i) % 4);
+        }
         x = Due.test(24, "none: THE END leads nowhere, nothing leads back");
         Due.is("shortest(12, 0, NONE)", x.shortest(12, 0, NONE), -2);
         Due.is("shortest(1, 0, NONE)", x.shortest(1, 0, NONE), -2);
@@ -213,6 +231,13 @@ public final class SearchBoundaries {
         Due.is("soonest(0, true)", x.soonest(0, true), NONE);
         Due.is("soonest(0, false)", x.soonest(0, false), 12);
         Due.is("soonest(1, true)", x.soonest(1, true), 11);
+        x = Due.test(25, "never, though it was asked when it could come");
+        leadAlways(x, 0, 12);
+        Due.is("soonest(0, true)", x.soonest(0, true), 1);
+        Due.is("soonest(0, false)", x.soonest(0, false), 1);
+        leadAlways(x, 0, 0);
+        Due.is("soonest(0, true)", x.soonest(0, true), NONE);
+        Due.is("soonest(0, false)", x.soonest(0, false), NONE);
         x = Due.test(25, "by cue 0 as it is now");
         x.scene(0, 1, 12);
         x.call(0, 1);
@@ -562,6 +587,10 @@ public final class SearchBoundaries {
         x = Due.test(34, "THE END aside: SCENE 11 alone");
         x.kind(11, 1);
         Due.is("look(1)", x.look(1), 0);
+        x = Due.test(34, "SCENE 11 goes on, too");
+        x.kind(11, 1);
+        x.scene(11, 2, 4);
+        Due.is("look(1)", x.look(1), 16);
         x = Due.test(34, "by any cue: four SCENES");
         x.kind(5, 1);
         for (int c = 0; c < 4; c++) {
@@ -630,6 +659,29 @@ public final class SearchBoundaries {
             x.scene(7, c, 12);
             Due.is("tells()", x.tells(), c);
         }
+        for (int s = 0; s < 12; s++) {
+            x = Due.test(36, "KINDS of those it may be: of each, SCENE " + s);
+            eachToItself(x);
+            x.scene(s, 2, 12);
+            Due.is("tells()", x.tells(), 2);
+        }
+        for (int kind = 0; kind < 4; kind++) {
+            x = Due.test(36, "(THE END a KIND of its own): unlike KIND " + kind);
+            eachToItself(x);
+            for (int s = 0; s < 12; s++) {
+                x.kind(s, kind);
+            }
+            x.scene(5, 3, 12);
+            Due.is("tells()", x.tells(), 3);
+        }
+        x = Due.test(36, "of the most sorts: 5, by cue 1");
+        eachToItself(x);
+        for (int s = 0; s < 12; s++) {
+            x.kind(s, s % 4);
+        }
+        Due.is("tells(): 4 by each", x.tells(), 0);
+        x.scene(9, 1, 12);
+        Due.is("tells()", x.tells(), 1);
         x = Due.test(36, "of like ones the lowest: 1 and 3");
         eachToItself(x);
         x.scene(7, 1, 12);
@@ -744,6 +796,26 @@ public final class SearchBoundaries {
         Due.is("roster(1, NONE)", x.roster(1, NONE), 101);
         Due.is("roster(1, 0)", x.roster(1, 0), 1);
         Due.is("roster(1, 1)", x.roster(1, 1), 0);
+        x = Due.test(39, "most LIKES together: four give way, each to the next EVENING");
+        for (int p = 0; p < 5; p++) {
+            x.person(0, 0);
+            x.likes(p, p % 4, 50);
+            x.likes(p, p % 4 + 1, p < 4 ? 49 : 0);
+        }
+        Due.is("roster(1, NONE)", x.roster(1, NONE), 246);
+        for (int p = 0; p < 5; p++) {
+            Due.is("roster(1, " + p + ")", x.roster(1, p), (p + 1) % 5);
+        }
+        x = Due.test(39, "most LIKES together: four give way, each to the EVENING ahead");
+        for (int p = 0; p < 5; p++) {
+            x.person(0, 0);
+            x.likes(p, p < 4 ? 4 - p : 4, 50);
+            x.likes(p, p < 4 ? 3 - p : 3, p < 4 ? 49 : 0);
+        }
+        Due.is("roster(1, NONE)", x.roster(1, NONE), 246);
+        for (int p = 0; p < 5; p++) {
+            Due.is("roster(1, " + p + ")", x.roster(1, p), p < 4 ? 3 - p : 4);
+        }
         x = Due.test(39, "of like ones PERSON by PERSON: the first has the lowest");
         x.person(0, 0);
         x.person(0, 0);
@@ -837,6 +909,19 @@ public final class SearchBoundaries {
         x.felt(0, 6);
         x.felt(0, 5);
         Due.is("whose()", x.whose(), 0);
+        x = Due.test(41, "all are so: each PERSON by its own");
+        x.person(5, 1);
+        x.person(7, 1);
+        Tape.read(x, "gladdens who+3;");
+        x.felt(1, 4);
+        Due.is("whose()", x.whose(), 1);
+        x.felt(0, 3);
+        Due.is("whose()", x.whose(), 1);
+        x.felt(0, 4);
+        Due.is("whose()", x.whose(), 0);
+        x.felt(NONE, 0);
+        x.felt(0, 3);
+        Due.is("whose()", x.whose(), 1);
         x = Due.test(41, "a TEXT without it: PLAIN, whichever rules");
         x.person(5, 1);
         Tape.rule(x, "gladdens 7;");

@@ -24,6 +24,7 @@ public final class TextBoundaries {
         cuts();
         order();
         asks();
+        asksOfThree();
         kinds();
         lawLimits();
         knownNames();
@@ -211,6 +212,18 @@ public final class TextBoundaries {
         x = Due.test(9, "a TEXT that is read doesn't rule by that");
         Tape.read(x, "cues 3;");
         Due.is("about(2)", x.about(2), NONE);
+        x = Due.test(9, "NONE: none rules, though there are 4");
+        for (int t = 0; t < 4; t++) {
+            Tape.read(x, "cues 3;gladdens 9;stays 0;");
+        }
+        x.person(5, 9);
+        Due.is("ofScene(0, 7)", x.ofScene(0, 7), 0);
+        Due.is("of(0, 3)", x.of(0, 3), 5);
+        x.by(3);
+        Due.is("ofScene(0, 7)", x.ofScene(0, 7), 3);
+        x.by(NONE);
+        Due.is("ofScene(0, 7)", x.ofScene(0, 7), 0);
+        Due.is("of(0, 3)", x.of(0, 3), 5);
         x = Due.test(9, "TEXT 3, the greatest");
         for (int t = 0; t < 4; t++) {
             Tape.read(x, "cues " + t + ";");
@@ -569,6 +582,33 @@ public final class TextBoundaries {
         same("- of kinds", "-kinds 11", "0-3");
     }
 
+    /** Of each way that three ASKS can be: by hand, and by the SUM. */
+    private static void asksOfThree() {
+        String[] so = {"2<1", "1<2"};
+        for (int i = 0; i < 8; i++) {
+            boolean a = (i & 1) != 0;
+            boolean b = (i & 2) != 0;
+            boolean c = (i & 4) != 0;
+            String x = so[i & 1];
+            String y = so[i >> 1 & 1];
+            String z = so[i >> 2];
+            asked(x + " or " + y + " or " + z, a || b || c);
+            asked(x + " and " + y + " and " + z, a && b && c);
+            asked(x + " or " + y + " and " + z, a || b && c);
+            asked(x + " and " + y + " or " + z, a && b || c);
+            asked("not " + x + " or " + y + " and " + z, !a || b && c);
+            asked("not " + x + " and " + y + " or " + z, !a && b || c);
+            asked(x + " and not " + y + " or not " + z, a && !b || !c);
+            asked("not not " + x + " and not not not " + y + " or not not " + z, a && !b || c);
+        }
+    }
+
+    private static void asked(String either, boolean yes) {
+        FilmLooksBack x = Due.test(18, "EITHER, BOTH, ASK: " + either);
+        Tape.rule(x, "cues if " + either + " then 1 else 2 end;");
+        Due.is("ofScene(0, 7)", x.ofScene(0, 7), yes ? 1 : 2);
+    }
+
     private static void asks() {
         String[] signs = {"<", "<=", ">", ">=", "=", "#"};
         String[] due = {"001", "011", "100", "110", "010", "101"};
@@ -576,6 +616,8 @@ public final class TextBoundaries {
             for (int b = 0; b < 3; b++) {
                 boolean yes = due[i].charAt(b) == '1';
                 sum("SUM one of < <= > >= = # SUM", "if 5" + signs[i] + (4 + b) + " then 1 else 2 end", yes ? 1 : 2);
+                sum("not SUM one of < <= > >= = # SUM", "if not 5" + signs[i] + (4 + b) + " then 1 else 2 end",
+                        yes ? 2 : 1);
             }
         }
         sum("or: none", "if 2<1 or 2<1 then 1 else 2 end", 2);
@@ -721,6 +763,15 @@ public final class TextBoundaries {
         x.evening(1);
         Due.is("changed()", x.changed(), 1);
         Due.is("CHANGES", x.book(0, 3), 1);
+        x = Due.test(13, "scene, cue, next in stays, of a TEXT without cues");
+        Tape.rule(x, "stays if scene=5 and cue=2 and next=12 then 1 else 0 end;");
+        x.person(1, 1);
+        x.scene(0, 2, 5);
+        x.scene(5, 2, 12);
+        Houses.drawing(x, 2, 2);
+        x.evening(1);
+        Due.is("SCENES", x.book(0, 1), 2);
+        Due.is("changed()", x.changed(), 32);
         x = Due.test(13, "next in stays: THE END is 12");
         Tape.rule(x, "cues 2;stays next-11;");
         x.scene(0, 2, 5);

@@ -15,6 +15,11 @@ final class Due {
         return new FilmLooksBack();
     }
 
+    /** What is asked from here on is asked of this promise. */
+    static void of(int promise) {
+        words = "promise " + promise;
+    }
+
     static void is(String call, long got, long due) {
         asked++;
         if (got != due) {
@@ -28,7 +33,8 @@ final class Due {
     }
 
     static void end() {
-        System.out.println(tests + " sentences, " + asked + " answers, " + wrong + " wrong");
+        String sentences = tests == 0 ? "" : tests + " sentences, ";
+        System.out.println(sentences + asked + " answers, " + wrong + " wrong");
         if (wrong != 0) {
             System.exit(1);
         }

@@ -21,6 +21,9 @@ final class Houses {
         x.person(2, 7);
         x.person(9, 6);
         oneCueEach(x);
+        x.scene(0, 1, 4);
+        x.scene(0, 2, 5);
+        x.scene(0, 3, 6);
         x.scene(2, 1, 0);
         x.scene(1, 3, 12);
         x.kind(2, 1);
@@ -46,21 +49,25 @@ final class Houses {
         return x;
     }
 
-    /** As much of everything as there can be, but DAY. */
+    /** As much of everything as there can be, but DAY; each EVENING has a CHANGE. */
     static FilmLooksBack full() {
         FilmLooksBack x = new FilmLooksBack();
         oneCueEach(x);
-        for (int i = 0; i < 8; i++) {
+        x.scene(0, 1, 5);
+        x.scene(0, 2, 6);
+        for (int p = 0; p < 8; p++) {
             x.person(9, 6);
+            x.likes(p, 4, 10 + p);
         }
-        for (int i = 0; i < 4; i++) {
+        for (int p = 7; p >= 0; p--) {
+            x.felt(p, 9);
+        }
+        Tape.rule(x, "cues if scene=0 then 1+day%2 else 0 end;stays 1;");
+        for (int i = 0; i < 3; i++) {
             Tape.read(x, "");
         }
         for (int i = 0; i < 12; i++) {
             x.cue(3);
-        }
-        for (int i = 0; i < 8; i++) {
-            x.felt(7, 99);
         }
         for (int i = 0; i < 15; i++) {
             x.feed(0x20202020, 0x20202020, 0x20202020, 0x20202020, 0x20202020);
@@ -69,14 +76,17 @@ final class Houses {
         return x;
     }
 
-    /** DAY is this, without anything else than EVENINGS held. */
+    /** DAY is this, by EVENINGS in a new house; TEXT 0 is so many of them. */
     static FilmLooksBack onDay(int day) {
-        FilmLooksBack x = new FilmLooksBack();
+        return onDay(new FilmLooksBack(), day);
+    }
+
+    static FilmLooksBack onDay(FilmLooksBack x, int day) {
         Tape.read(x, "evening 40;".repeat(24));
-        while (x.is(0) + 960 <= day) {
+        for (int i = 0; i < 10 && x.is(0) + 960 <= day; i++) {
             x.played(0);
         }
-        while (x.is(0) < day) {
+        for (int i = 0; i < 24 && x.is(0) < day; i++) {
             x.evening(Math.min(40, day - x.is(0)));
         }
         return x;
