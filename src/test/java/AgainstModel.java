@@ -1658,7 +1658,7 @@ public final class AgainstModel {
         void see() {
             int s = num(0, 11);
             int what = num(0, 3);
-            switch (r.nextInt(14)) {
+            switch (r.nextInt(15)) {
                 case 0:
                 case 1:
                     int p = num(0, Math.max(1, m.a.plain.size()) - 1);
@@ -1698,10 +1698,12 @@ public final class AgainstModel {
                     boolean ended = r.nextBoolean();
                     same("ledger(" + ended + ")", x.ledger(ended), m.ledger(ended));
                     break;
+                case 13:
+                    same("front()", x.front(), m.front());
+                    break;
                 default:
                     int which = num(0, 6);
                     same("about(" + which + ")", x.about(which), m.about(which));
-                    same("front()", x.front(), m.front());
                     break;
             }
         }

@@ -711,6 +711,20 @@ public final class Boundaries {
             x.undo();
             unlikeBook(x, day - 30, day - 1);
         }
+        for (int changed : new int[] {29, 59}) {
+            FilmLooksBack y = Due.test(16, "BOOK is as ahead of it: CHANGES of DAY 29 behind DAY 59, by " + changed);
+            Tape.rule(y, "cues if day=" + changed + " then 1 else 0 end;");
+            y.scene(0, 1, 12);
+            y.evening(40);
+            y.evening(15);
+            Due.is("foretold(10, 2)", y.foretold(10, 2), changed == 59 ? 1 : 0);
+            Due.is("of DAY 29, 30 kept", y.book(4, 3), changed == 29 ? 1 : 0);
+            y.evening(5);
+            Due.is("of DAY 59", y.book(29, 3), changed == 59 ? 1 : 0);
+            y.undo();
+            Due.is("of DAY 29", y.book(0, 3), changed == 29 ? 1 : 0);
+            Due.is("DAY of it", y.book(0, 0), 29);
+        }
         Due.test(21, "FORETOLD: BOOK is as it was, all 30");
         FilmLooksBack x = unlike();
         x.evening(33);
@@ -1323,6 +1337,7 @@ public final class Boundaries {
         x.look(1);
         x.by(3);
         x.back();
+        Due.is("the last cue of THE ROW", x.run(9, 12), 9);
         FilmLooksBack twin = Houses.full();
         twin.image();
         same("as ahead", x, twin);
@@ -1340,6 +1355,36 @@ public final class Boundaries {
             Due.is("NEXT by cue 0", x.ofScene(0, 0), 6 - i % 2);
         }
         Due.is("BOOK", x.book(NONE, 0), 10);
+        x = Due.test(48, "FELT: whose it was, of all 8");
+        x.person(5, 1);
+        x.person(7, 1);
+        Tape.read(x, "");
+        for (int i = 0; i < 7; i++) {
+            x.felt(0, 5);
+        }
+        x.felt(1, 7);
+        x.image();
+        x.felt(NONE, 0);
+        for (int i = 0; i < 8; i++) {
+            x.felt(i == 7 ? 0 : 1, 9);
+        }
+        Due.is("whose()", x.whose(), 0);
+        x.back();
+        Due.is("about(5)", x.about(5), 8);
+        Due.is("whose()", x.whose(), 1);
+        x = Due.test(48, "STEPS of THE IMAGE: BOOK as ahead of the latest");
+        Tape.rule(x, "cues if scene=0 then 1+day%2 else 0 end;stays 1;");
+        x.scene(0, 1, 5);
+        x.scene(0, 2, 6);
+        x.evening(30);
+        x.image();
+        x.by(NONE);
+        x.evening(31);
+        x.back();
+        x.undo();
+        for (int i = 0; i < 29; i++) {
+            Due.is("book(" + i + ", 3)", x.book(i, 3), 1);
+        }
     }
 
     private static void imagesOfTexts() {
