@@ -1234,6 +1234,30 @@ public final class Boundaries {
         Due.is("changed()", x.changed(), 1);
         x.call(11, 1);
         Due.is("changed()", x.changed(), 2049);
+        x = Due.test(44, "CHANGED (bits): all 12; none again");
+        for (int s = 0; s < 12; s++) {
+            x.scene(s, 1, s);
+            x.call(s, 1);
+        }
+        Due.is("changed()", x.changed(), 4095);
+        for (int s = 0; s < 12; s++) {
+            x.mend(s);
+        }
+        Due.is("changed()", x.changed(), 0);
+        x = Due.test(44, "CHANGED: NEXT by cue 0 alone, not what is told of another cue");
+        x.scene(3, 1, 9);
+        x.scene(3, 0, 8);
+        Due.is("changed()", x.changed(), 0);
+        x = Due.test(46, "BY THE BOOK: an empty one; all ended; none ended");
+        Due.is("ledger(true)", x.ledger(true), 0);
+        Due.is("ledger(false)", x.ledger(false), 0);
+        x.evening(40);
+        Due.is("ledger(true)", x.ledger(true), 30);
+        Due.is("ledger(false)", x.ledger(false), 0);
+        leadAlways(x, 0, 0);
+        x.evening(40);
+        Due.is("ledger(true)", x.ledger(true), 0);
+        Due.is("ledger(false)", x.ledger(false), 30);
         x = Due.test(45, "PLAIN of those SEEN together: 8 of 9");
         for (int p = 0; p < 8; p++) {
             x.person(9, 1 + p % 6);
