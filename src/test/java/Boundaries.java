@@ -1258,6 +1258,17 @@ public final class Boundaries {
         x.evening(40);
         Due.is("ledger(true)", x.ledger(true), 0);
         Due.is("ledger(false)", x.ledger(false), 30);
+        x = Due.test(46, "BY THE BOOK: whatever was CHANGED, all of 30 and of 29 ended");
+        Tape.rule(x, "cues if scene=0 then 1+day%2 else 0 end;stays 1;");
+        x.scene(0, 1, 5);
+        x.scene(0, 2, 6);
+        x.evening(29);
+        Due.is("ledger(true)", x.ledger(true), 29);
+        Due.is("ledger(false)", x.ledger(false), 0);
+        x.evening(1);
+        Due.is("CHANGES", x.book(0, 3), 1);
+        Due.is("ledger(true)", x.ledger(true), 30);
+        Due.is("ledger(false)", x.ledger(false), 0);
         x = Due.test(45, "PLAIN of those SEEN together: 8 of 9");
         for (int p = 0; p < 8; p++) {
             x.person(9, 1 + p % 6);

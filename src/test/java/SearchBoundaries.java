@@ -838,6 +838,25 @@ public final class SearchBoundaries {
         for (int p = 0; p < 5; p++) {
             Due.is("roster(1, " + p + ")", x.roster(1, p), p);
         }
+        for (int p = 0; p < 7; p++) {
+            x = Due.test(39, "of like ones: " + p + " on 0 and the next on 4, not " + p + " on 1 and the next on 0");
+            int[] fixed = {0, 2, 2, 3, 3, 4};
+            for (int q = 0; q < 8; q++) {
+                x.person(0, 0);
+                if (q != p && q != p + 1) {
+                    x.likes(q, fixed[q < p ? q : q - 2], 99);
+                }
+            }
+            x.likes(p, 0, 5);
+            x.likes(p, 1, 5);
+            x.likes(p + 1, 0, 5);
+            x.likes(p + 1, 4, 5);
+            Due.is("roster(2, NONE)", x.roster(2, NONE), 604);
+            for (int q = 0; q < 8; q++) {
+                int due = q == p ? 0 : q == p + 1 ? 4 : fixed[q < p ? q : q - 2];
+                Due.is("roster(2, " + q + ")", x.roster(2, q), due);
+            }
+        }
         x = Due.test(39, "one of LIKES is more than all choices of the lowest");
         for (int p = 0; p < 8; p++) {
             x.person(0, 0);

@@ -107,6 +107,26 @@ public final class TextBoundaries {
         Due.is("end(0)", x.end(0), 0);
         Due.is("end(0)", x.end(0), 0);
         Due.is("end(1)", x.end(1), NONE);
+        x = Due.test(6, "its first n bytes alone: a word that is cut off ends there");
+        Tape.put(x, "mend 0;mends");
+        x.end(11);
+        Due.is("text()", x.text(), NONE);
+        Due.is("place, the length", x.fault(1), 11);
+        Tape.put(x, "mend 0;mend");
+        x.end(10);
+        Due.is("text()", x.text(), NONE);
+        Due.is("place of men", x.fault(1), 7);
+        x = Due.test(6, "its first n bytes alone: a NUMBER that is cut off ends there");
+        Tape.put(x, "mend 12");
+        x.end(6);
+        Due.is("text()", x.text(), NONE);
+        Due.is("FAULT", x.fault(0), 1);
+        Due.is("place, the length", x.fault(1), 6);
+        x = Due.test(6, "its first n bytes alone: a sign that is cut off ends there");
+        Tape.put(x, "cues if 1<=");
+        x.end(10);
+        Due.is("text()", x.text(), NONE);
+        Due.is("place, the length", x.fault(1), 10);
         x = Due.test(6, "what was cut off doesn't come again");
         Tape.put(x, "mend 0;mend 12;");
         x.end(7);
@@ -153,6 +173,13 @@ public final class TextBoundaries {
         Tape.rule(x, "gladdens 500" + "-4+1".repeat(70) + "-194 ;\n\n");
         Due.is("of(0, 3), of 300 bytes", x.of(0, 3), 96);
         faulty("300 bytes without an end: at the length", "gladdens " + "1+".repeat(145) + "1", 1, 300);
+        String[][] lasts = {{"mend", "300"}, {"mend 0", "300"}, {"cues (", "300"}, {"scene", "300"}, {"a", "299"},
+            {"cues 1<", "299"}, {"cues 1>", "299"}, {"cues 1<=", "298"}, {"mend 12", "298"}, {"mend 10000", "295"}};
+        for (String[] last : lasts) {
+            faulty("a TEXT of 300 bytes: the tape ends behind the last TOKEN", " ".repeat(300 - last[0].length()) + last[0],
+                    last[0].startsWith("mend 1") ? 2 : 1, Integer.parseInt(last[1]));
+        }
+        fine("a TEXT of 300 bytes: blanks to its end", "mend 0;" + "\n".repeat(293));
         x = Due.test(7, "what a TEXT has of the one read ahead: nothing");
         Tape.read(x, "cues 3;stays 2;gladdens 7;mend 0;");
         Tape.rule(x, "scene 4 by 1 to 9;");
@@ -380,6 +407,16 @@ public final class TextBoundaries {
             faulty(can + ": kinds of *", law + "kinds *2;", 1, at + 6);
             faulty(can + ": kind isn't kinds", law + "kind 1;", 1, at);
             faulty(can + ": the word of another CLAUSE", law + "1+mend;", 1, at + 2);
+        }
+        for (String no : "; ( ) + * / % then else end or and not kinds if 5 day".split(" ")) {
+            String ahead = "cues if 1 ";
+            boolean goesOn = "+*/%".contains(no);
+            faulty(can + ": no sign between two SUMS", ahead + no + " <2 then 1 else 2 end;", 1,
+                    ahead.length() + (goesOn ? 2 : 0));
+        }
+        for (String no : "< <= > >= = # ( ) :".split(" ")) {
+            faulty(can + ": not ; behind a CLAUSE", "mend 0" + no, 1, 6);
+            faulty(can + ": not ; behind a SUM", "cues 1" + (no.equals(")") ? "" : no) + ")", 1, 6);
         }
         faulty(can + ": if without a sign", "cues if 1 then 2 else 3 end;", 1, 10);
         faulty(can + ": if without SUM", "cues if <1 then 2 else 3 end;", 1, 8);
