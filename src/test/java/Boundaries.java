@@ -36,12 +36,6 @@ public final class Boundaries {
         Due.end();
     }
 
-    private static void leadAlways(FilmLooksBack x, int s, int next) {
-        for (int c = 0; c < 4; c++) {
-            x.scene(s, c, next);
-        }
-    }
-
     private static void same(String what, FilmLooksBack x, FilmLooksBack y) {
         List<Long> a = Houses.all(x);
         List<Long> b = Houses.all(y);
@@ -85,7 +79,7 @@ public final class Boundaries {
         Due.is("ledger(false)", x.ledger(false), 0);
         x = Due.test(1, "ODDS of cues at first 7, 1, 1, 1");
         for (int c = 0; c < 4; c++) {
-            leadAlways(x, c, c);
+            Houses.leadAlways(x, c, c);
             x.scene(c, c, 12);
             Due.is("odds(" + c + ", 1, false)", x.odds(c, 1, false), c == 0 ? 7 : 1);
             Due.is("odds(" + c + ", 1, true)", x.odds(c, 1, true), 10);
@@ -145,7 +139,7 @@ public final class Boundaries {
         Due.is("scene(11, 3, 12)", x.scene(11, 3, 12), true);
         Due.is("ofScene(11, 3)", x.ofScene(11, 3), 12);
         x = Due.test(2, "12 is THE END");
-        leadAlways(x, 0, 12);
+        Houses.leadAlways(x, 0, 12);
         Due.is("evening(1)", x.evening(1), 1);
         Due.is("one SCENE", x.book(0, 1), 1);
         x = Due.test(2, "NEXT by that cue alone is told");
@@ -369,7 +363,7 @@ public final class Boundaries {
         Due.is("evening(40)", x.evening(40), 40);
         Due.is("DAY", x.is(0), 40);
         x = Due.test(13, "how many of them ended: none");
-        leadAlways(x, 0, 0);
+        Houses.leadAlways(x, 0, 0);
         Due.is("evening(3)", x.evening(3), 0);
         Due.is("ENDED", x.is(3), 0);
         Due.is("DAY", x.is(0), 3);
@@ -386,9 +380,9 @@ public final class Boundaries {
         Due.is("DAY", x.is(0), 9999);
         Due.is("the latest", x.book(29, 0), 9998);
         x = Due.test(13, "DAY 0 .. 9999: it is DAY that counts, not how many ended");
-        leadAlways(x, 0, 0);
+        Houses.leadAlways(x, 0, 0);
         x.evening(1);
-        leadAlways(x, 0, 1);
+        Houses.leadAlways(x, 0, 1);
         Houses.onDay(x, 9999);
         Due.is("DAY", x.is(0), 9999);
         Due.is("ENDED", x.is(3), 9998);
@@ -407,21 +401,21 @@ public final class Boundaries {
 
     private static void howManyScenes() {
         FilmLooksBack x = Due.test(13, "from SCENE 0 on");
-        leadAlways(x, 0, 12);
+        Houses.leadAlways(x, 0, 12);
         x.evening(1);
         for (int s = 0; s < 12; s++) {
             Due.is("SHOWN of " + s, x.ofScene(s, 6), s == 0 ? 1 : 0);
         }
         x = Due.test(13, "from SCENE 0 on, wherever the one ahead stopped");
-        leadAlways(x, 0, 5);
-        leadAlways(x, 5, 5);
+        Houses.leadAlways(x, 0, 5);
+        Houses.leadAlways(x, 5, 5);
         x.evening(1);
-        leadAlways(x, 5, 12);
+        Houses.leadAlways(x, 5, 12);
         x.evening(1);
         Due.is("SHOWN of 0", x.ofScene(0, 6), 2);
         Due.is("SHOWN of 5", x.ofScene(5, 6), 30);
         x = Due.test(13, "30 SCENES at most");
-        leadAlways(x, 0, 0);
+        Houses.leadAlways(x, 0, 0);
         Due.is("evening(1)", x.evening(1), 0);
         Due.is("SCENES", x.book(0, 1), 30);
         Due.is("SHOWN", x.ofScene(0, 6), 30);
@@ -442,7 +436,7 @@ public final class Boundaries {
             Due.is("GLAD", x.of(0, 2), longest <= 30 ? longest : 0);
         }
         x = Due.test(18, "SHOWN once more each time");
-        leadAlways(x, 1, 0);
+        Houses.leadAlways(x, 1, 0);
         x.evening(2);
         Due.is("SHOWN of 0", x.ofScene(0, 6), 30);
         Due.is("SHOWN of 1", x.ofScene(1, 6), 30);
@@ -482,7 +476,7 @@ public final class Boundaries {
         x.evening(1);
         Due.is("SCENES", x.book(0, 1), 2);
         x = Due.test(13, "X * 443 + 331 below 30577: it is that");
-        leadAlways(x, 0, 12);
+        Houses.leadAlways(x, 0, 12);
         int small = 0;
         for (int seed = 0; seed < 10000 && small == 0; seed++) {
             int first = seed * 2 + 199;
@@ -495,7 +489,7 @@ public final class Boundaries {
         x.evening(1);
         Due.is("X", x.is(1), small * 443 + 331);
         x = Due.test(13, "an EVENING goes on with X where the one ahead left it");
-        leadAlways(x, 0, 12);
+        Houses.leadAlways(x, 0, 12);
         x.evening(2);
         Due.is("X", x.is(1), Houses.anew(27334));
     }
@@ -566,7 +560,7 @@ public final class Boundaries {
             Due.is("of(" + p + ", 2)", x.of(p, 2), p == 1 || p == 2 ? 3 : 0);
         }
         x = Due.test(13, "Is it THE END: if it doesn't end, nobody is gladdened");
-        leadAlways(x, 0, 0);
+        Houses.leadAlways(x, 0, 0);
         x.person(3, 1);
         x.evening(1);
         Due.is("of(0, 2)", x.of(0, 2), 0);
@@ -638,7 +632,7 @@ public final class Boundaries {
         }
         x = Due.test(46, "BY THE BOOK: of its 30 alone");
         x.evening(2);
-        leadAlways(x, 0, 0);
+        Houses.leadAlways(x, 0, 0);
         x.evening(28);
         Due.is("ledger(true)", x.ledger(true), 2);
         Due.is("ledger(false)", x.ledger(false), 28);
@@ -657,7 +651,7 @@ public final class Boundaries {
         x.scene(0, 1, 4);
         x.scene(0, 2, 7);
         x.scene(0, 3, 2);
-        leadAlways(x, 2, 2);
+        Houses.leadAlways(x, 2, 2);
         Tape.rule(x, "cues if scene=0 then 1+day%7%3 else 0 end;stays day%4/3;");
         return x;
     }
@@ -741,7 +735,7 @@ public final class Boundaries {
 
     private static void counters() {
         FilmLooksBack x = Due.test(18, "SHOWN (0 .. 9999): 9990 and 30 are 9999");
-        leadAlways(x, 0, 0);
+        Houses.leadAlways(x, 0, 0);
         for (int i = 0; i < 8; i++) {
             x.evening(40);
         }
@@ -771,7 +765,7 @@ public final class Boundaries {
 
     private static void years() {
         FilmLooksBack x = Due.test(15, "SEED 0: X is 199, then anew; 199 mod 5 is 4: an EVENING");
-        leadAlways(x, 0, 12);
+        Houses.leadAlways(x, 0, 12);
         Due.is("years(0, 1)", x.years(0, 1), 1);
         Due.is("X: two draws", x.is(1), Houses.anew(27334));
         x = Due.test(15, "SEED 9999: X is 20197, then anew");
@@ -870,12 +864,12 @@ public final class Boundaries {
         x.evening(7);
         Due.is("years(1, 1)", x.years(1, 1), 7);
         x = Due.test(15, "the answer is DAY, not how many ended");
-        leadAlways(x, 0, 0);
+        Houses.leadAlways(x, 0, 0);
         x.evening(2);
         Due.is("years(2, 1)", x.years(2, 1), 3);
         Due.is("ENDED", x.is(3), 0);
         x = Due.test(15, "n times: x is X as the EVENING ahead left it");
-        leadAlways(x, 0, 12);
+        Houses.leadAlways(x, 0, 12);
         int at = 199;
         int day = 0;
         for (int i = 0; i < 3; i++) {
@@ -926,11 +920,11 @@ public final class Boundaries {
         Due.is("BOOK", x.book(NONE, 0), 0);
         Due.is("ledger(true)", x.ledger(true), 0);
         x = Due.test(16, "BOOK as ahead of it: the eldest of 30 is there again");
-        leadAlways(x, 0, 12);
+        Houses.leadAlways(x, 0, 12);
         x.evening(1);
-        leadAlways(x, 0, 0);
+        Houses.leadAlways(x, 0, 0);
         x.evening(29);
-        leadAlways(x, 0, 6);
+        Houses.leadAlways(x, 0, 6);
         x.evening(1);
         Due.is("the eldest", x.book(0, 1), 30);
         x.undo();
@@ -1203,25 +1197,25 @@ public final class Boundaries {
         x = Due.test(43, "OFTEN: none was SHOWN: of like ones the lowest");
         Due.is("often()", x.often(), 0);
         x = Due.test(43, "OFTEN: SCENE 11; of like ones the lowest");
-        leadAlways(x, 11, 11);
+        Houses.leadAlways(x, 11, 11);
         x.evening(1);
         Due.is("often()", x.often(), 11);
         x = Due.test(43, "OFTEN: SCENE 1 of 2, 30, 28; SCENE 2 of 3, 31, 57");
-        leadAlways(x, 1, 1);
+        Houses.leadAlways(x, 1, 1);
         x.evening(1);
-        leadAlways(x, 1, 2);
-        leadAlways(x, 2, 2);
+        Houses.leadAlways(x, 1, 2);
+        Houses.leadAlways(x, 2, 2);
         x.evening(1);
         Due.is("often()", x.often(), 1);
         x.evening(1);
         Due.is("often()", x.often(), 2);
         x = Due.test(43, "OFTEN: both at 9999: the lowest");
-        leadAlways(x, 1, 1);
+        Houses.leadAlways(x, 1, 1);
         for (int i = 0; i < 9; i++) {
             x.evening(40);
         }
         Due.is("often()", x.often(), 1);
-        leadAlways(x, 0, 0);
+        Houses.leadAlways(x, 0, 0);
         for (int i = 0; i < 9; i++) {
             x.evening(40);
         }
@@ -1254,7 +1248,7 @@ public final class Boundaries {
         x.evening(40);
         Due.is("ledger(true)", x.ledger(true), 30);
         Due.is("ledger(false)", x.ledger(false), 0);
-        leadAlways(x, 0, 0);
+        Houses.leadAlways(x, 0, 0);
         x.evening(40);
         Due.is("ledger(true)", x.ledger(true), 0);
         Due.is("ledger(false)", x.ledger(false), 30);
@@ -1316,7 +1310,7 @@ public final class Boundaries {
         x.evening(1);
         Due.is("back()", x.back(), 3);
         x = Due.test(47, "the answer is DAY, not how many ended; of BACK, too");
-        leadAlways(x, 0, 0);
+        Houses.leadAlways(x, 0, 0);
         x.evening(3);
         Due.is("image()", x.image(), 3);
         Due.is("back()", x.back(), 3);

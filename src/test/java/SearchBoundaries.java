@@ -32,15 +32,9 @@ public final class SearchBoundaries {
         Due.end();
     }
 
-    private static void leadAlways(FilmLooksBack x, int s, int next) {
-        for (int c = 0; c < 4; c++) {
-            x.scene(s, c, next);
-        }
-    }
-
     private static void eachToItself(FilmLooksBack x) {
         for (int s = 0; s < 12; s++) {
-            leadAlways(x, s, s);
+            Houses.leadAlways(x, s, s);
         }
     }
 
@@ -49,7 +43,7 @@ public final class SearchBoundaries {
         Due.is("foretold(1, 0)", x.foretold(1, 0), 1);
         Due.is("foretold(40, 0)", x.foretold(40, 0), 40);
         x = Due.test(21, "how many end: none; SCENES of the latest: 30");
-        leadAlways(x, 0, 0);
+        Houses.leadAlways(x, 0, 0);
         Due.is("foretold(40, 0)", x.foretold(40, 0), 0);
         Due.is("foretold(40, 1)", x.foretold(40, 1), 30);
         x = Due.test(21, "SCENES of the latest, how many end: by DAY");
@@ -140,7 +134,7 @@ public final class SearchBoundaries {
         Due.is("shortest(11, 11, NONE)", x.shortest(11, 11, NONE), 0);
         Due.is("shortest(12, 12, NONE)", x.shortest(12, 12, NONE), 0);
         x = Due.test(24, "it is there, though it could come again");
-        leadAlways(x, 4, 4);
+        Houses.leadAlways(x, 4, 4);
         Due.is("shortest(4, 4, NONE)", x.shortest(4, 4, NONE), 0);
         Due.is("shortest(4, 4, 0)", x.shortest(4, 4, 0), -2);
         x = Due.test(24, "the longest: 12 cues, the last of them");
@@ -165,7 +159,7 @@ public final class SearchBoundaries {
         }
         x = Due.test(24, "the longest, by SCENES from the highest down: 12 cues, each its own");
         for (int s = 0; s < 12; s++) {
-            leadAlways(x, s, s);
+            Houses.leadAlways(x, s, s);
             x.scene(s, s % 4, s == 0 ? 12 : s - 1);
         }
         Due.is("shortest(11, 12, NONE)", x.shortest(11, 12, NONE), 12);
@@ -213,7 +207,7 @@ public final class SearchBoundaries {
         Due.is("soonest(0, true)", x.soonest(0, true), 12);
         Due.is("soonest(0, false)", x.soonest(0, false), 12);
         x = Due.test(25, "never: THE END can't come");
-        leadAlways(x, 11, 11);
+        Houses.leadAlways(x, 11, 11);
         Due.is("soonest(0, true)", x.soonest(0, true), NONE);
         Due.is("soonest(11, false)", x.soonest(11, false), NONE);
         x = Due.test(25, "the former as soon as can be, the latter as late");
@@ -232,10 +226,10 @@ public final class SearchBoundaries {
         Due.is("soonest(0, false)", x.soonest(0, false), 12);
         Due.is("soonest(1, true)", x.soonest(1, true), 11);
         x = Due.test(25, "never, though it was asked when it could come");
-        leadAlways(x, 0, 12);
+        Houses.leadAlways(x, 0, 12);
         Due.is("soonest(0, true)", x.soonest(0, true), 1);
         Due.is("soonest(0, false)", x.soonest(0, false), 1);
-        leadAlways(x, 0, 0);
+        Houses.leadAlways(x, 0, 0);
         Due.is("soonest(0, true)", x.soonest(0, true), NONE);
         Due.is("soonest(0, false)", x.soonest(0, false), NONE);
         x = Due.test(25, "by cue 0 as it is now");
@@ -262,11 +256,11 @@ public final class SearchBoundaries {
         Due.is("best(12, true)", x.best(12, true), NONE);
         Due.is("best(12, false)", x.best(12, false), NONE);
         x = Due.test(26, "none of the former, if it never comes");
-        leadAlways(x, 11, 11);
+        Houses.leadAlways(x, 11, 11);
         Due.is("best(0, true)", x.best(0, true), NONE);
         Due.is("best(11, true)", x.best(11, true), NONE);
         x = Due.test(26, "the latter has a cue, though it never comes by any: the lowest");
-        leadAlways(x, 11, 11);
+        Houses.leadAlways(x, 11, 11);
         Due.is("best(0, false)", x.best(0, false), 0);
         x = Due.test(26, "of like ones the lowest: all four, for both");
         Due.is("best(11, true)", x.best(11, true), 0);
@@ -282,7 +276,7 @@ public final class SearchBoundaries {
         x = Due.test(26, "the latter: by which it never does, the lowest of 2 and 3, not the latest");
         x.scene(5, 1, 0);
         x.scene(5, 2, 11);
-        leadAlways(x, 10, 10);
+        Houses.leadAlways(x, 10, 10);
         x.scene(5, 3, 10);
         x.scene(5, 0, 11);
         Due.is("best(5, false): 1 by 0, and from there to 5 and 10", x.best(5, false), 1);
@@ -529,17 +523,17 @@ public final class SearchBoundaries {
         FilmLooksBack x = Due.test(32, "DEAD: none");
         Due.is("dead()", x.dead(), 0);
         x = Due.test(32, "DEAD: all");
-        leadAlways(x, 11, 0);
+        Houses.leadAlways(x, 11, 0);
         Due.is("dead()", x.dead(), ALL);
         x = Due.test(32, "DEAD: SCENE 0 alone, SCENE 11 not");
-        leadAlways(x, 0, 0);
+        Houses.leadAlways(x, 0, 0);
         Due.is("dead()", x.dead(), 1);
         x = Due.test(32, "DEAD: SCENE 11, and what leads to it alone");
-        leadAlways(x, 11, 11);
+        Houses.leadAlways(x, 11, 11);
         x.scene(3, 3, 12);
         Due.is("dead()", x.dead(), ALL - 15);
         x = Due.test(32, "DEAD: by cue 0 as it is now");
-        leadAlways(x, 0, 0);
+        Houses.leadAlways(x, 0, 0);
         x.scene(0, 1, 12);
         x.call(0, 1);
         x.scene(0, 1, 0);
@@ -547,12 +541,12 @@ public final class SearchBoundaries {
         x.mend(0);
         Due.is("dead()", x.dead(), 1);
         x = Due.test(33, "FAR: none, all are DEAD");
-        leadAlways(x, 11, 0);
+        Houses.leadAlways(x, 11, 0);
         Due.is("far()", x.far(), NONE);
         x = Due.test(33, "FAR: SCENE 0, 12 cues");
         Due.is("far()", x.far(), 0);
         x = Due.test(33, "FAR: of those not DEAD, 11 alone");
-        leadAlways(x, 10, 0);
+        Houses.leadAlways(x, 10, 0);
         Due.is("far()", x.far(), 11);
         x = Due.test(33, "FAR: of like ones the lowest, all 1 cue");
         for (int s = 0; s < 12; s++) {
@@ -563,9 +557,9 @@ public final class SearchBoundaries {
         for (int s = 0; s < 12; s++) {
             x.scene(s, 1, 12);
         }
-        leadAlways(x, 1, 7);
-        leadAlways(x, 2, 7);
-        leadAlways(x, 7, 8);
+        Houses.leadAlways(x, 1, 7);
+        Houses.leadAlways(x, 2, 7);
+        Houses.leadAlways(x, 7, 8);
         Due.is("far()", x.far(), 1);
     }
 
@@ -620,7 +614,7 @@ public final class SearchBoundaries {
         for (int s = 0; s < 12; s++) {
             x = Due.test(35, "SURE: SCENE " + s);
             x.kind(3, 1);
-            leadAlways(x, 3, s);
+            Houses.leadAlways(x, 3, s);
             x.look(1);
             Due.is("sure()", x.sure(), s);
         }
@@ -689,7 +683,7 @@ public final class SearchBoundaries {
         Due.is("tells()", x.tells(), 1);
         x = Due.test(36, "KINDS of those it may be: of one alone");
         x.kind(3, 1);
-        leadAlways(x, 3, 11);
+        Houses.leadAlways(x, 3, 11);
         x.look(1);
         Due.is("sure()", x.sure(), 11);
         x.scene(11, 2, 0);

@@ -109,6 +109,13 @@ final class Houses {
         }
     }
 
+    /** By each cue. */
+    static void leadAlways(FilmLooksBack x, int s, int next) {
+        for (int c = 0; c < 4; c++) {
+            x.scene(s, c, next);
+        }
+    }
+
     static int anew(int x) {
         return (x * 443 + 331) % 30577;
     }
