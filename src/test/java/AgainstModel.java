@@ -42,368 +42,7 @@ public final class AgainstModel {
         System.out.println("the model answers alike: " + RUNS + " runs of " + CALLS + " calls");
     }
 
-    // ---------------------------------------------------------------- the model: texts
-
     static final Map<String, Integer> MET = new TreeMap<>();
-
-    static final class Token {
-        String sort;
-        String sign;
-        int value;
-        int at;
-    }
-
-    static final class Wrong extends RuntimeException {
-        final int fault;
-        final int at;
-
-        Wrong(int fault, int at) {
-            super(null, null, false, false);
-            this.fault = fault;
-            this.at = at;
-        }
-    }
-
-    static final List<String> NAMES = List.of("day", "seen", "plain", "scene", "shown", "draw", "cue", "next", "who",
-            "glad", "row", "long");
-    static final Map<String, List<String>> NAMES_OF = Map.of(
-            "cues", List.of("day", "seen", "plain", "scene", "shown", "draw"),
-            "stays", List.of("day", "seen", "plain", "scene", "cue", "next"),
-            "gladdens", List.of("day", "seen", "plain", "who", "glad", "row", "long"));
-    static final Map<String, String[]> ORDERS = Map.of(
-            "scene", new String[] {"0..11", "by", "0..3", "to", "0..12"},
-            "kind", new String[] {"0..3", "of", "0..11"},
-            "person", new String[] {"0..9", "row", "0..9"},
-            "seat", new String[] {"0..7", "in", "0..9"},
-            "call", new String[] {"0..11", "by", "1..3"},
-            "mend", new String[] {"0..11"},
-            "evening", new String[] {"1..40"});
-    static final List<String> RELATIONS = List.of("<", "<=", ">", ">=", "=", "#");
-
-    static List<Token> tokens(byte[] bytes) {
-        String all = new String(bytes, java.nio.charset.StandardCharsets.ISO_8859_1);
-        java.util.regex.Matcher m = java.util.regex.Pattern
-                .compile("[ \n]|([a-zA-Z]+)|([0-9]+)|(<=|>=|[<>=#+\\-*/%();])|([\\s\\S])").matcher(all);
-        List<Token> found = new ArrayList<>();
-        while (m.find()) {
-            Token t = new Token();
-            t.at = m.start();
-            t.sign = m.group();
-            if (m.group(1) != null || m.group(3) != null) {
-                t.sort = t.sign;
-            } else if (m.group(2) != null) {
-                t.sort = "NUMBER";
-                BigInteger big = new BigInteger(t.sign);
-                t.value = big.compareTo(BigInteger.valueOf(100000)) > 0 ? 100000 : big.intValue();
-            } else if (m.group(4) != null) {
-                t.sort = "NOTHING";
-            } else {
-                continue;
-            }
-            found.add(t);
-        }
-        Token end = new Token();
-        end.sort = "END";
-        end.sign = "";
-        end.at = bytes.length;
-        found.add(end);
-        return found;
-    }
-
-    /** Syntax by what is still due, the next on top; "*)" marks one of ( not kinds if - that is open. */
-    static void check(List<Token> tokens) {
-        ArrayDeque<String> due = new ArrayDeque<>();
-        Set<String> laws = new HashSet<>();
-        String law = "";
-        int clauses = 0;
-        due.push("TEXT");
-        for (Token t : tokens) {
-            boolean taken = false;
-            while (!taken) {
-                if (due.isEmpty()) {
-                    throw new IllegalStateException();
-                }
-                String top = due.pop();
-                switch (top) {
-                    case "TEXT":
-                        if (t.sort.equals("END")) {
-                            return;
-                        }
-                        boolean isLaw = NAMES_OF.containsKey(t.sort);
-                        if (!isLaw && !ORDERS.containsKey(t.sort)) {
-                            throw new Wrong(1, t.at);
-                        }
-                        if (isLaw && !laws.add(t.sort)) {
-                            throw new Wrong(4, t.at);
-                        }
-                        if (clauses == 24) {
-                            throw new Wrong(6, t.at);
-                        }
-                        clauses++;
-                        law = t.sort;
-                        due.push("TEXT");
-                        due.push(";");
-                        if (isLaw) {
-                            due.push("SUM");
-                        } else {
-                            String[] parts = ORDERS.get(t.sort);
-                            for (int i = parts.length - 1; i >= 0; i--) {
-                                due.push(parts[i]);
-                            }
-                        }
-                        taken = true;
-                        break;
-                    case "SUM":
-                        due.push("MORE+");
-                        due.push("PRODUCT");
-                        break;
-                    case "MORE+":
-                        if (t.sort.equals("+") || t.sort.equals("-")) {
-                            due.push("MORE+");
-                            due.push("PRODUCT");
-                            taken = true;
-                        }
-                        break;
-                    case "PRODUCT":
-                        due.push("MORE*");
-                        due.push("ONE");
-                        break;
-                    case "MORE*":
-                        if (t.sort.equals("*") || t.sort.equals("/") || t.sort.equals("%")) {
-                            due.push("MORE*");
-                            due.push("ONE");
-                            taken = true;
-                        }
-                        break;
-                    case "EITHER":
-                        due.push("MOREor");
-                        due.push("BOTH");
-                        break;
-                    case "MOREor":
-                        if (t.sort.equals("or")) {
-                            due.push("MOREor");
-                            due.push("BOTH");
-                            taken = true;
-                        }
-                        break;
-                    case "BOTH":
-                        due.push("MOREand");
-                        due.push("ASK");
-                        break;
-                    case "MOREand":
-                        if (t.sort.equals("and")) {
-                            due.push("MOREand");
-                            due.push("ASK");
-                            taken = true;
-                        }
-                        break;
-                    case "ASK":
-                        if (t.sort.equals("not")) {
-                            open(due, t, "ASK");
-                            taken = true;
-                        } else {
-                            due.push("SUM");
-                            due.push("RELATION");
-                            due.push("SUM");
-                        }
-                        break;
-                    case "RELATION":
-                        if (!RELATIONS.contains(t.sort)) {
-                            throw new Wrong(1, t.at);
-                        }
-                        taken = true;
-                        break;
-                    case "ONE":
-                        one(due, t, law);
-                        taken = true;
-                        break;
-                    case "*)":
-                        break;
-                    default:
-                        if (top.contains("..")) {
-                            if (!t.sort.equals("NUMBER")) {
-                                throw new Wrong(1, t.at);
-                            }
-                            String[] limits = top.split("\\.\\.");
-                            if (t.value < Integer.parseInt(limits[0]) || t.value > Integer.parseInt(limits[1])) {
-                                throw new Wrong(2, t.at);
-                            }
-                        } else if (!top.equals(t.sort)) {
-                            throw new Wrong(1, t.at);
-                        }
-                        taken = true;
-                        break;
-                }
-            }
-        }
-    }
-
-    static void one(ArrayDeque<String> due, Token t, String law) {
-        if (t.sort.equals("NUMBER")) {
-            if (t.value > 9999) {
-                throw new Wrong(2, t.at);
-            }
-        } else if (NAMES.contains(t.sort)) {
-            if (!NAMES_OF.get(law).contains(t.sort)) {
-                throw new Wrong(5, t.at);
-            }
-        } else if (t.sort.equals("(")) {
-            open(due, t, "SUM", ")");
-        } else if (t.sort.equals("-") || t.sort.equals("kinds")) {
-            open(due, t, "ONE");
-        } else if (t.sort.equals("if")) {
-            open(due, t, "EITHER", "then", "SUM", "else", "SUM", "end");
-        } else {
-            throw new Wrong(1, t.at);
-        }
-    }
-
-    static void open(ArrayDeque<String> due, Token t, String... then) {
-        int open = 0;
-        for (String d : due) {
-            open += d.equals("*)") ? 1 : 0;
-        }
-        if (open >= 8) {
-            throw new Wrong(3, t.at);
-        }
-        due.push("*)");
-        for (int i = then.length - 1; i >= 0; i--) {
-            due.push(then[i]);
-        }
-    }
-
-    /** A text that is right, as its tokens; laws are reckoned from the tokens anew each time. */
-    static final class MText {
-        final List<List<Token>> clauses = new ArrayList<>();
-        final Map<String, List<Token>> laws = new HashMap<>();
-
-        MText(List<Token> tokens) {
-            List<Token> clause = new ArrayList<>();
-            for (Token t : tokens) {
-                if (t.sort.equals(";")) {
-                    clauses.add(clause);
-                    if (NAMES_OF.containsKey(clause.get(0).sort)) {
-                        laws.put(clause.get(0).sort, clause.subList(1, clause.size()));
-                    }
-                    clause = new ArrayList<>();
-                } else {
-                    clause.add(t);
-                }
-            }
-        }
-    }
-
-    /** Splits at the last sign of the weakest binding that is not enclosed: so all goes from the left. */
-    static long reckon(List<Token> sum, Map<String, Integer> known, int[] kinds) {
-        int cut = cutAt(sum, "+", "-");
-        if (cut < 0) {
-            cut = cutAt(sum, "*", "/", "%");
-        }
-        if (cut >= 0) {
-            long a = reckon(sum.subList(0, cut), known, kinds);
-            long b = reckon(sum.subList(cut + 1, sum.size()), known, kinds);
-            switch (sum.get(cut).sort) {
-                case "+":
-                    return limit(a + b);
-                case "-":
-                    return limit(a - b);
-                case "*":
-                    return limit(a * b);
-                case "/":
-                    return b == 0 ? 0 : limit(a / b);
-                default:
-                    return b == 0 ? 0 : limit(a - a / b * b);
-            }
-        }
-        Token head = sum.get(0);
-        List<Token> rest = sum.subList(1, sum.size());
-        switch (head.sort) {
-            case "NUMBER":
-                return head.value;
-            case "(":
-                return reckon(rest.subList(0, rest.size() - 1), known, kinds);
-            case "-":
-                return -reckon(rest, known, kinds);
-            case "kinds":
-                long s = reckon(rest, known, kinds);
-                return s >= 0 && s < 12 ? kinds[(int) s] : 0;
-            case "if":
-                int then = enclosed(rest, "then");
-                int or = enclosed(rest, "else");
-                boolean yes = ask(rest.subList(0, then), known, kinds);
-                return yes ? reckon(rest.subList(then + 1, or), known, kinds)
-                        : reckon(rest.subList(or + 1, rest.size() - 1), known, kinds);
-            default:
-                return known.get(head.sort);
-        }
-    }
-
-    static boolean ask(List<Token> asked, Map<String, Integer> known, int[] kinds) {
-        int or = cutAt(asked, "or");
-        if (or >= 0) {
-            return ask(asked.subList(0, or), known, kinds) | ask(asked.subList(or + 1, asked.size()), known, kinds);
-        }
-        int and = cutAt(asked, "and");
-        if (and >= 0) {
-            return ask(asked.subList(0, and), known, kinds) & ask(asked.subList(and + 1, asked.size()), known, kinds);
-        }
-        if (asked.get(0).sort.equals("not")) {
-            return !ask(asked.subList(1, asked.size()), known, kinds);
-        }
-        int at = cutAt(asked, RELATIONS.toArray(new String[0]));
-        long a = reckon(asked.subList(0, at), known, kinds);
-        long b = reckon(asked.subList(at + 1, asked.size()), known, kinds);
-        switch (asked.get(at).sort) {
-            case "<":
-                return a < b;
-            case "<=":
-                return a <= b;
-            case ">":
-                return a > b;
-            case ">=":
-                return a >= b;
-            case "=":
-                return a == b;
-            default:
-                return a != b;
-        }
-    }
-
-    static long limit(long n) {
-        return n > 1000000 ? 1000000 : n < -1000000 ? -1000000 : n;
-    }
-
-    /** The last place of one of these signs at the outermost, where it joins two; -1 without. */
-    static int cutAt(List<Token> of, String... signs) {
-        int deep = 0;
-        int found = -1;
-        boolean ended = false;
-        for (int i = 0; i < of.size(); i++) {
-            String sign = of.get(i).sort;
-            if (deep == 0 && ended && Arrays.asList(signs).contains(sign)) {
-                found = i;
-            }
-            if (sign.equals("(") || sign.equals("if")) {
-                deep++;
-            } else if (sign.equals(")") || sign.equals("end")) {
-                deep--;
-            }
-            ended = sign.equals("NUMBER") || sign.equals(")") || sign.equals("end") || NAMES.contains(sign);
-        }
-        return found;
-    }
-
-    static int enclosed(List<Token> of, String word) {
-        int deep = 0;
-        for (int i = 0; i < of.size(); i++) {
-            String sign = of.get(i).sort;
-            if (deep == 0 && sign.equals(word)) {
-                return i;
-            }
-            deep += sign.equals("if") ? 1 : sign.equals("end") ? -1 : 0;
-        }
-        throw new IllegalStateException();
-    }
 
     // ---------------------------------------------------------------- the model: what is
 
@@ -451,7 +90,7 @@ public final class AgainstModel {
         int[][] told = new int[12][4];
         int[] kinds = new int[12];
         List<Integer> plain = new ArrayList<>();
-        List<MText> texts = new ArrayList<>();
+        List<TextModel.MText> texts = new ArrayList<>();
         int ruling = -1;
         List<Integer> row = new ArrayList<>();
         int[] odds = {7, 1, 1, 1};
@@ -588,17 +227,17 @@ public final class AgainstModel {
                 bytes[i] = tape.get(i);
             }
             tape.clear();
-            List<Token> tokens = tokens(bytes);
+            List<TextModel.Token> tokens = TextModel.tokens(bytes);
             try {
-                check(tokens);
-            } catch (Wrong w) {
+                TextModel.check(tokens);
+            } catch (TextModel.Wrong w) {
                 fault = w.fault;
                 place = w.at;
                 return -1;
             }
             fault = 0;
             place = -1;
-            a.texts.add(new MText(tokens));
+            a.texts.add(new TextModel.MText(tokens));
             return a.texts.size() - 1;
         }
 
@@ -667,11 +306,11 @@ public final class AgainstModel {
         }
 
         long law(int text, String law, Map<String, Integer> known, long without, long high) {
-            List<Token> sum = text < 0 ? null : a.texts.get(text).laws.get(law);
+            List<TextModel.Token> sum = text < 0 ? null : a.texts.get(text).laws.get(law);
             if (sum == null) {
                 return without;
             }
-            return Math.max(0, Math.min(high, reckon(sum, known, a.kinds)));
+            return Math.max(0, Math.min(high, TextModel.reckon(sum, known, a.kinds)));
         }
 
         int cueBy(int s, int shown, int draw) {
@@ -746,7 +385,7 @@ public final class AgainstModel {
             if (!in(text, 0, a.texts.size() - 1)) {
                 return -2;
             }
-            List<List<Token>> clauses = a.texts.get(text).clauses;
+            List<List<TextModel.Token>> clauses = a.texts.get(text).clauses;
             for (int i = 0; i < clauses.size(); i++) {
                 int[] n = clauses.get(i).stream().filter(t -> t.sort.equals("NUMBER")).mapToInt(t -> t.value).toArray();
                 boolean can = true;
@@ -1257,181 +896,11 @@ public final class AgainstModel {
         }
     }
 
-    // ---------------------------------------------------------------- texts that are drawn
-
-    static final class Writer {
-        final Random r;
-        final StringBuilder out = new StringBuilder();
-
-        Writer(Random r) {
-            this.r = r;
-        }
-
-        String text(int budget) {
-            out.setLength(0);
-            List<String> laws = new ArrayList<>(List.of("cues", "stays", "gladdens"));
-            int clauses = r.nextInt(6);
-            for (int i = 0; i < clauses && out.length() < budget; i++) {
-                if (!laws.isEmpty() && r.nextInt(2) == 0) {
-                    String law = laws.remove(r.nextInt(laws.size()));
-                    out.append(law).append(' ');
-                    sum(law, 2 + r.nextInt(3));
-                    out.append(';');
-                } else {
-                    order();
-                }
-            }
-            return out.toString();
-        }
-
-        /** Whole TEXTS with one FAULT that spoiling by chance seldom makes. */
-        String wrongAtOnePlace() {
-            out.setLength(0);
-            switch (r.nextInt(4)) {
-                case 0:
-                    String[] laws = {"cues 1;", "stays 1;", "gladdens 1;"};
-                    for (int i = 0; i < 3; i++) {
-                        out.append(laws[r.nextInt(3)]);
-                        order();
-                    }
-                    break;
-                case 1:
-                    order();
-                    int at = out.length();
-                    order();
-                    out.replace(at, out.length(), out.substring(at).replaceFirst("[0-9]+", "" + r.nextInt(50)));
-                    at = Math.max(at, out.length() - 3);
-                    out.replace(at, out.length(), out.substring(at).replaceFirst("[0-9]+", "" + r.nextInt(50)));
-                    break;
-                case 2:
-                    int openers = 6 + r.nextInt(4);
-                    out.append("stays ");
-                    String after = "";
-                    for (int i = 0; i < openers; i++) {
-                        int pick = r.nextInt(5);
-                        out.append(pick == 0 ? "(" : pick == 1 ? "-" : pick == 2 ? " kinds " : pick == 3 ? " if 1<" : " if not ");
-                        i += pick == 4 ? 1 : 0;
-                        after = (pick == 0 ? ")" : pick == 3 ? " then 1 else 2 end" : pick == 4 ? "=1 then 5 else 0 end" : "") + after;
-                    }
-                    out.append("cue").append(r.nextInt(4) == 0 ? "*(1-2)" : "").append(after).append(';');
-                    break;
-                default:
-                    for (int i = 0; i < 25; i++) {
-                        out.append(i == 8 ? "cues 1;" : i == 24 && r.nextBoolean() ? "cues 2;" : "mend 0;");
-                    }
-                    out.setLength(out.length() - r.nextInt(3) * 7);
-                    break;
-            }
-            return out.toString();
-        }
-
-        void order() {
-            List<String> heads = new ArrayList<>(new java.util.TreeSet<>(ORDERS.keySet()));
-            String head = heads.get(r.nextInt(heads.size()));
-            out.append(head).append(' ');
-            for (String part : ORDERS.get(head)) {
-                if (part.contains("..")) {
-                    String[] limits = part.split("\\.\\.");
-                    int low = Integer.parseInt(limits[0]);
-                    int high = Integer.parseInt(limits[1]);
-                    out.append(low + r.nextInt(high - low + 1));
-                } else {
-                    out.append(r.nextBoolean() ? " " : "").append(part).append(r.nextBoolean() ? " " : "\n");
-                }
-            }
-            out.append(';');
-        }
-
-        void sum(String law, int deep) {
-            product(law, deep);
-            while (r.nextInt(3) == 0) {
-                out.append(r.nextBoolean() ? "+" : " - ");
-                product(law, deep);
-            }
-        }
-
-        void product(String law, int deep) {
-            one(law, deep);
-            while (r.nextInt(3) == 0) {
-                out.append("*/%".charAt(r.nextInt(3)));
-                one(law, deep);
-            }
-        }
-
-        void one(String law, int deep) {
-            List<String> names = NAMES_OF.get(law);
-            int pick = r.nextInt(deep > 0 ? 10 : 6);
-            if (r.nextInt(150) == 0) {
-                out.append(' ').append(NAMES.get(r.nextInt(12))).append(' ');
-            } else if (pick < 4) {
-                out.append(' ').append(names.get(r.nextInt(names.size()))).append(' ');
-            } else if (pick < 6) {
-                out.append(r.nextInt(6) == 0 ? r.nextInt(10000) : r.nextInt(8));
-            } else if (pick == 6) {
-                out.append('(');
-                sum(law, deep - 1);
-                out.append(')');
-            } else if (pick == 7) {
-                out.append("-");
-                one(law, deep - 1);
-            } else if (pick == 8) {
-                out.append(" kinds ");
-                one(law, deep - 1);
-            } else {
-                out.append(" if ");
-                ask(law, deep - 1);
-                while (r.nextInt(3) == 0) {
-                    out.append(r.nextBoolean() ? " or " : " and ");
-                    ask(law, deep - 1);
-                }
-                out.append(" then ");
-                sum(law, deep - 1);
-                out.append(" else ");
-                sum(law, deep - 1);
-                out.append(" end ");
-            }
-        }
-
-        void ask(String law, int deep) {
-            if (r.nextInt(5) == 0) {
-                out.append(" not ");
-                ask(law, deep - 1);
-                return;
-            }
-            sum(law, deep);
-            out.append(RELATIONS.get(r.nextInt(6)));
-            sum(law, deep);
-        }
-
-        String spoilt(String text) {
-            StringBuilder b = new StringBuilder(text);
-            String[] bits = {"(", "not ", "kinds ", "if ", "- ", ")", ";", "draw ", "who ", "cue ", "row ", "10000",
-                "9999", "13", "cues ", "end ", "then ", "$", "Scene ", "<", "=", " ", "evening 0;", "mend 3;", "%",
-                "((((((((", "kinds kinds kinds kinds kinds kinds kinds kinds ", "gladdens ",
-                "mend 1;mend 1;mend 1;mend 1;mend 1;mend 1;mend 1;mend 1;mend 1;mend 1;mend 1;mend 1;",
-                "\t", "\u00e9"};
-            int times = 1 + r.nextInt(3);
-            for (int i = 0; i < times; i++) {
-                int at = r.nextInt(b.length() + 1);
-                if (r.nextInt(3) == 0 && at < b.length()) {
-                    b.delete(at, Math.min(b.length(), at + 1 + r.nextInt(6)));
-                } else {
-                    String bit = bits[r.nextInt(bits.length)];
-                    int repeated = r.nextInt(8) == 0 ? 3 : 1;
-                    for (int k = 0; k < repeated; k++) {
-                        b.insert(at, bit);
-                    }
-                }
-            }
-            return b.toString();
-        }
-    }
-
     // ---------------------------------------------------------------- both at once
 
     static final class Driver {
         final Random r;
-        final Writer writer;
+        final TextWriter writer;
         final FilmLooksBack x = new FilmLooksBack();
         final Model m = new Model();
         final List<String> told = new ArrayList<>();
@@ -1442,7 +911,7 @@ public final class AgainstModel {
 
         Driver(int seed) {
             r = new Random(seed * 7919L + 13);
-            writer = new Writer(r);
+            writer = new TextWriter(r);
             way = seed % 4;
         }
 

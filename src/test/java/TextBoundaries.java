@@ -23,6 +23,7 @@ public final class TextBoundaries {
         limits();
         cuts();
         order();
+        manyParts();
         asks();
         asksOfThree();
         kinds();
@@ -644,6 +645,23 @@ public final class TextBoundaries {
         FilmLooksBack x = Due.test(18, "EITHER, BOTH, ASK: " + either);
         Tape.rule(x, "cues if " + either + " then 1 else 2 end;");
         Due.is("ofScene(0, 7)", x.ofScene(0, 7), yes ? 1 : 2);
+    }
+
+    /** As many parts as 300 bytes hold: none is left out, none is too many. */
+    private static void manyParts() {
+        sum("PRODUCT {+ or - PRODUCT}: 145 of them", "1" + "+0".repeat(143) + "+5", 6);
+        sum("from the left: 145 of them", "99" + "-1".repeat(88) + "+0".repeat(54) + "*7", 11);
+        sum("ONE {* or / or % ONE}: 145 of them", "7" + "*1".repeat(143) + "*2", 14);
+        sum("from the left: 144 of them", "3*8" + "*3/3".repeat(71), 24);
+        sum("BOTH {or BOTH}: 50 of them, the last is so", "if 1=2" + "or1=2".repeat(48) + "or1=1then 3else 4end", 3);
+        sum("BOTH {or BOTH}: 50 of them, none is so", "if 1=2" + "or1=2".repeat(49) + "then 3else 4end", 4);
+        sum("ASK {and ASK}: 42 of them, all are so", "if 1=1" + "and1=1".repeat(41) + "then 3else 4end", 3);
+        sum("ASK {and ASK}: 42 of them, the last is not", "if 1=1" + "and1=1".repeat(40) + "and1=2then 3else 4end", 4);
+        sum("eight ifs around one another, each in a PRODUCT of a SUM of an ASK of a BOTH of an EITHER",
+                "if 0=1or1=1and1<0+1*".repeat(8) + "5" + "then1else2end ".repeat(8), 2);
+        sum("the same, by another innermost", "if 0=1or1=1and1<0+1*".repeat(8) + "0" + "then1else2end ".repeat(8), 1);
+        fine("{CLAUSE}: as many bytes as there can be", "cues 0" + "+1".repeat(146) + ";");
+        faulty("the end, at the length: as many bytes as there can be", "cues 10" + "+1".repeat(146) + "+", 1, 300);
     }
 
     private static void asks() {
